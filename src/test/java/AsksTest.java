@@ -360,6 +360,10 @@ public final class AsksTest {
         row("the fewest, then the first", new int[] {3, 1, 0, 1, 2}, ins(x));
         row("with it told", new int[] {2, 2, 2, 0, 2}, insBy(x, "1 5;"));
         row("with others told", new int[] {3, 1, 0, 1, 2}, insBy(x, "0 0;"));
+        TideLodger z = Check.in("house 0;house 40;tide 60;tide 0;tide 60;tide 0;");
+        row("up to 60 high, down to 0", new int[] {15, 1, 0, 0, 12}, ins(z));
+        row("60 high", new int[] {12, 1, 0, 1, 12}, insBy(z, "0 60;"));
+        row("0 high", new int[] {3, 2, 0, 1, 3}, insBy(z, "0 0;"));
         TideLodger y = new TideLodger();
         Check.due(-1, "no HOUSE", y.board(0));
         Check.due(-1, "no HOUSE", y.board(1));
@@ -625,6 +629,7 @@ public final class AsksTest {
         Check.due(96, "winds below 16", x.year(-1, 96, 16, 20, 3));
         // SEED -1 draws 9, 9, 6, 14, 9, 2, 8, 15, 0, 14.
         Check.due(3, "winds of SEED -1", x.year(-1, 10, 7, 0, 3));
+        row("no more than K", new int[] {4, 0, 0, 0}, years(Check.in("house 5;thing 0 1 1 4;tide 5;"), 0, 9, 0, 20));
         Check.due(2, "work", Check.work(x, "lift 0;tide;"));
         row("year from here", new int[] {14, 1, 0, 0}, years(x, 2, 1, 8, 7));
         Check.illegal("year of 0", () -> x.year(0, 0, 0, 0, 0));

@@ -12,6 +12,7 @@ public final class TextsTest {
         promise4Law();
         promise4LawFaults();
         promise5Work();
+        promise5FullStreet();
         promise5Agains();
         promise5WorkFaults();
         promise5FullOfWorks();
@@ -113,6 +114,11 @@ public final class TextsTest {
         TideLodger y = Check.in("house 0;thing 0 1 1 1;tide 9;");
         Check.due(1, "tie", Check.work(y, "tie 0;"));
         Check.due(2, "a rope holds 3 without", y.snaps(0));
+        Check.due(0, "street anew", Check.street(x, "rent 3;rope 1;"));
+        Check.due(1, "street anew", Check.street(x, "house 0;thing 0 1 1 1;tide 9;"));
+        Check.due(10, "R, 10 without, whatever was told ahead", x.told(6));
+        Check.due(1, "tie", Check.work(x, "tie 0;"));
+        Check.due(2, "a rope, 3 without, whatever was told ahead", x.snaps(0));
         Check.due(-1, "blanks alone", Check.in("    ").fault());
         Check.due(0, "leading zeros", Check.street(y, "rent 0000000000000000000000000007;"));
         Check.due(7, "R", y.told(6));
@@ -129,6 +135,7 @@ public final class TextsTest {
     private static void promise3Faults() {
         street(1, 0, "houses 1;");
         street(1, 0, "hous 1;");
+        street(1, 0, "tidez 1;");
         street(1, 2, "  ;");
         street(1, 8, "house 1;;");
         street(1, 0, "7;");
@@ -224,6 +231,7 @@ public final class TextsTest {
         lawIs(10, "0-900*900*900*900/999/999/99", 1, 0, 0, 0, 0, 0);
         lawIs(1, "((((((1))))))", 1, 0, 0, 0, 0, 0);
         lawIs(1, "(least[(most[(least[1,2]),0]),3])", 1, 0, 0, 0, 0, 0);
+        lawIs(1, "least[2,most[1,least[2,most[1,least[2,most[1,1]]]]]]", 1, 0, 0, 0, 0, 0);
         lawIs(6, "(1)+(2)+(3)+(0)+(0)+(0)+(0)", 1, 0, 0, 0, 0, 0);
         lawIs(0, "(0-512*512*512*16)/(0-1)", 1, 0, 0, 0, 0, 0);
         TideLodger x = Check.in("house 0;thing 0 1 1 1;tide 8;rent 1;");
@@ -293,7 +301,12 @@ public final class TextsTest {
         Check.due(1, "a TIDE", Check.work(x, "tide;"));
         Check.due(1, "worn", x.thing(0, 6));
         Check.due(0, "it stays", x.thing(0, 3));
-        Check.due(2, "a new rope", Check.work(x, "untie 0;untie 0;tie 0;"));
+        Check.due(1, "untie", Check.work(x, "untie 0;untie 0;"));
+        Check.due(1, "REFUSED", x.told(8));
+        Check.due(0, "not tied", x.thing(0, 5));
+        Check.due(0, "not worn", x.thing(0, 6));
+        Check.due(1, "a new rope", Check.work(x, "tie 0;"));
+        Check.due(1, "tied", x.thing(0, 5));
         Check.due(0, "not worn", x.thing(0, 6));
         Check.due(2, "to its end", Check.work(x, "tide;tide;"));
         Check.due(0, "not tied", x.thing(0, 5));
@@ -318,6 +331,49 @@ public final class TextsTest {
         Check.due(160, "the TAPE stays", y.count(1));
         Check.due(30, "work(150)", y.work(150));
         Check.illegal("work(1) of none", () -> y.work(1));
+    }
+
+    /** Each THING and HOUSE of a full STREET stands for itself. */
+    private static void promise5FullStreet() {
+        StringBuilder street = new StringBuilder();
+        for (int house = 0; house < 6; house++) {
+            street.append("house ").append(house).append(";");
+        }
+        for (int thing = 0; thing < 10; thing++) {
+            street.append("thing ").append(thing % 6).append(" 1 20 ").append(20 + thing).append(";");
+        }
+        for (int tide = 0; tide < 12; tide++) {
+            street.append("tide ").append(tide == 0 ? 25 : tide).append(";");
+        }
+        TideLodger x = Check.in(street.toString());
+        Check.due(10, "work", Check.work(x, "lift 0;lift 2;lift 9;tie 1;tie 7;tie 8;bag 0;bag 5;bag 5;lift 4;"));
+        fullStreet(x, new int[] {20, 21, 22, 23, 24, 25, 26, 27, 28, 29}, new int[] {0, 1, 2, 3, 4, 5, 0, 1, 2, 3}, 0);
+        Check.due(1, "law", Check.law(x, "house + 1"));
+        Check.due(1, "work", Check.work(x, "tide;"));
+        // WATER is 23, 24, 23, 22, 21, 16: what is down floats on, but for tied ones and THING 5.
+        fullStreet(x, new int[] {20, 20, 22, 22, 24, 24, 25, 26, 27, 29}, new int[] {0, 1, 2, 4, 4, 5, 1, 1, 2, 3}, 1);
+        Check.due(21, "paid", x.told(11));
+        Check.due(1, "TIDE", x.told(4));
+        Check.due(0, "undo()", x.undo() - 1);
+        fullStreet(x, new int[] {20, 21, 22, 23, 24, 25, 26, 27, 28, 29}, new int[] {0, 1, 2, 3, 4, 5, 0, 1, 2, 3}, 0);
+    }
+
+    private static void fullStreet(TideLodger x, int[] worths, int[] houses, int worn) {
+        for (int thing = 0; thing < 10; thing++) {
+            boolean up = thing == 0 || thing == 2 || thing == 9 || thing == 4;
+            boolean tied = thing == 1 || thing == 7 || thing == 8;
+            Check.due(worths[thing], "WORTH of " + thing, x.thing(thing, 2));
+            Check.due(houses[thing], "HOUSE of " + thing, x.thing(thing, 3));
+            Check.due(up ? 1 : 0, "up " + thing, x.thing(thing, 4));
+            Check.due(tied ? 1 : 0, "tied " + thing, x.thing(thing, 5));
+            Check.due(tied ? worn : 0, "worn " + thing, x.thing(thing, 6));
+        }
+        for (int house = 0; house < 6; house++) {
+            int bags = house == 0 ? 1 : house == 5 ? 2 : 0;
+            Check.due(house + 2 * bags, "SILL of " + house, x.house(house, 0));
+            Check.due(bags, "bags of " + house, x.house(house, 1));
+            Check.due(worn * (house + 1), "paid to " + house, x.house(house, 4));
+        }
     }
 
     private static void promise5Agains() {
