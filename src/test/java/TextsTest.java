@@ -618,6 +618,29 @@ public final class TextsTest {
         Check.street(x, "");
         Check.due(-1, "restore() behind a STREET", x.restore());
         fullImage();
+        imageOfOtherWorks();
+    }
+
+    /** What is undone behind restore() are the WORKS of the IMAGE, not those that came in their place. */
+    private static void imageOfOtherWorks() {
+        TideLodger x = Check.in("house 0;tide 8;");
+        Check.due(1, "work", Check.work(x, "bag 0;"));
+        Check.due(1, "work", Check.work(x, "bag 0;"));
+        Check.due(1, "image()", x.image());
+        Check.due(1, "undo()", x.undo());
+        Check.due(0, "undo()", x.undo());
+        Check.due(1, "work", Check.work(x, "tide;"));
+        Check.due(1, "work", Check.work(x, "tide;"));
+        Check.due(1, "work", Check.work(x, "tide;"));
+        Check.due(0, "restore()", x.restore());
+        Check.due(2, "WORKS", x.count(2));
+        Check.due(4, "SILL", x.house(0, 0));
+        Check.due(0, "TIDES", x.told(4));
+        Check.due(1, "undo()", x.undo());
+        Check.due(2, "SILL", x.house(0, 0));
+        Check.due(0, "TIDES", x.told(4));
+        Check.due(0, "undo()", x.undo());
+        Check.due(0, "SILL", x.house(0, 0));
     }
 
     private static void fullImage() {
