@@ -13,6 +13,7 @@ public final class TextsTest {
         promise4LawFaults();
         promise5Work();
         promise5FullStreet();
+        promise5Ends();
         promise5Agains();
         promise5WorkFaults();
         promise5FullOfWorks();
@@ -356,6 +357,33 @@ public final class TextsTest {
         Check.due(1, "TIDE", x.told(4));
         Check.due(0, "undo()", x.undo() - 1);
         fullStreet(x, new int[] {20, 21, 22, 23, 24, 25, 26, 27, 28, 29}, new int[] {0, 1, 2, 3, 4, 5, 0, 1, 2, 3}, 0);
+    }
+
+    /** The first and the last THING and HOUSE, where the row of one kind ends and that of the next begins. */
+    private static void promise5Ends() {
+        TideLodger x = Check.in("house 0;".repeat(6) + "thing 5 1 20 9;".repeat(9) + "thing 5 1 1 9;tide 1;rope 9;");
+        Check.due(2, "work", Check.work(x, "tie 9;tide;"));
+        Check.due(1, "tied", x.thing(9, 5));
+        Check.due(1, "worn", x.thing(9, 6));
+        for (int thing = 0; thing < 9; thing++) {
+            for (int what = 4; what < 7; what++) {
+                Check.due(0, "thing(" + thing + ", " + what + ")", x.thing(thing, what));
+            }
+            Check.due(8, "WORTH of " + thing, x.thing(thing, 2));
+        }
+        TideLodger y = Check.in("house 0;thing 0 1 1 9;" + "thing 0 1 20 9;".repeat(9) + "tide 1;rope 9;");
+        Check.due(2, "work", Check.work(y, "tie 0;tide;"));
+        Check.due(1, "worn", y.thing(0, 6));
+        Check.due(0, "tied", y.thing(9, 5));
+        Check.due(1, "tie", Check.work(y, "tie 9;"));
+        Check.due(1, "worn", y.thing(0, 6));
+        Check.due(1, "tied", y.thing(9, 5));
+        Check.due(2, "work", Check.work(y, "untie 0;lift 0;"));
+        Check.due(1, "tied", y.thing(9, 5));
+        Check.due(0, "up", y.thing(9, 4));
+        Check.due(2, "work", Check.work(y, "untie 9;lift 9;"));
+        Check.due(0, "tied", y.thing(0, 5));
+        Check.due(1, "up", y.thing(9, 4));
     }
 
     private static void fullStreet(TideLodger x, int[] worths, int[] houses, int worn) {
