@@ -11,6 +11,7 @@ public final class AsksTest {
     private AsksTest() { }
 
     public static void main(String[] args) {
+        Check.watch();
         promise10House();
         promise11Thing();
         promise12Height();

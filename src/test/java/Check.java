@@ -1,25 +1,52 @@
 import java.util.NoSuchElementException;
 
 /** Holds answers against those that are due, and feeds texts. */
-final class Check {
+class Check {
+    private static final int MOST_MILLISECONDS = 600000;
+
     private static int held;
     private static int wrong;
+    private static volatile String place = "";
 
-    private Check() { }
+    Check() { }
 
     interface Call {
         int answer();
     }
 
+    /** A call that fails to end is a failure, too: the test is ended from outside then. */
+    static void watch() {
+        Thread watcher = new Thread(() -> {
+            try {
+                Thread.sleep(MOST_MILLISECONDS);
+            } catch (InterruptedException e) {
+                return;
+            }
+            System.out.println(place + "a call has not ended");
+            Runtime.getRuntime().halt(1);
+        });
+        watcher.setDaemon(true);
+        watcher.start();
+    }
+
+    /** What stands ahead of each line that is printed from now on. */
+    static void at(String where) {
+        place = where;
+    }
+
+    static void fail(String what) {
+        wrong++;
+        System.out.println(place + what);
+    }
+
     static void due(int want, String call, int got) {
         held++;
         if (got != want) {
-            wrong++;
-            System.out.println(call + " answered " + got + ", due is " + want);
+            fail(call + " answered " + got + ", due is " + want);
         }
     }
 
-    private static void thrown(Class<?> want, String call, Call made) {
+    static void thrown(Class<?> want, String call, Call made) {
         held++;
         String got;
         try {
@@ -30,8 +57,7 @@ final class Check {
             }
             got = "threw " + e;
         }
-        wrong++;
-        System.out.println(call + " " + got + ", due is " + want.getSimpleName());
+        fail(call + " " + got + ", due is " + want.getSimpleName());
     }
 
     static void illegal(String call, Call made) {

@@ -6,7 +6,8 @@ import java.util.Random;
 
 /** Runs of calls with drawn arguments (always the same ones), each answer held against that of the Model. */
 public final class RandomRunsTest {
-    private static final int CALLS = 500;
+    // A text and what is looked at behind it may bring 70 more: an object is used for 512 at most.
+    private static final int CALLS = 430;
 
     private final Random draw;
     private final TideLodger lodger = new TideLodger();
@@ -22,6 +23,7 @@ public final class RandomRunsTest {
     }
 
     public static void main(String[] args) {
+        Check.watch();
         int runs = args.length > 0 ? Integer.parseInt(args[0]) : 1500;
         int first = args.length > 1 ? Integer.parseInt(args[1]) : 1;
         Map<String, Integer> made = new HashMap<>();
@@ -91,15 +93,16 @@ public final class RandomRunsTest {
         if (below(10) > 0) {
             text('s');
         }
+        int works = below(10) == 0 ? 40 : 16;
         while (calls < CALLS && wrong == 0) {
             int r = below(100);
             if (r < 2) {
                 text('s');
             } else if (r < 6) {
                 text('l');
-            } else if (r < 16) {
+            } else if (r < works) {
                 text('w');
-            } else if (r < 20) {
+            } else if (r < works + 4) {
                 text('m');
             } else {
                 ask(below(36));

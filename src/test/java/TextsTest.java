@@ -3,6 +3,7 @@ public final class TextsTest {
     private TextsTest() { }
 
     public static void main(String[] args) {
+        Check.watch();
         promise1NewObject();
         promise2Feed();
         promise3Street();
