@@ -46,6 +46,13 @@ class Check {
         }
     }
 
+    static void must(boolean good, String what) {
+        held++;
+        if (!good) {
+            fail("not so: " + what);
+        }
+    }
+
     static void thrown(Class<?> want, String call, Call made) {
         held++;
         String got;
